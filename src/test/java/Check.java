@@ -1,0 +1,50 @@
+/** Compares answers with those that are due, and says how the test ended. */
+final class Check {
+    private static int wrong = 0;
+    private static int looked = 0;
+
+    private Check() {
+    }
+
+    static void same(String what, long got, long due) {
+        looked++;
+        if (got != due) {
+            fail(what, String.valueOf(got), String.valueOf(due));
+        }
+    }
+
+    static void same(String what, boolean got, boolean due) {
+        looked++;
+        if (got != due) {
+            fail(what, String.valueOf(got), String.valueOf(due));
+        }
+    }
+
+    static void same(String what, String got, String due) {
+        looked++;
+        if (!got.equals(due)) {
+            fail(what, got, due);
+        }
+    }
+
+    /** Compares all chunks of the heap, from unit 0 to END, with a text as Heaps.layout makes it. */
+    static void layout(String what, VictimHeap heap, String due) {
+        same(what + ", layout", Heaps.layout(heap), due);
+    }
+
+    static boolean allRight() {
+        return wrong == 0;
+    }
+
+    static void finish() {
+        System.out.println(looked + " answers looked at, " + wrong + " not as due");
+        if (wrong != 0 || looked == 0) {
+            System.exit(1);
+        }
+    }
+
+    private static void fail(String what, String got, String due) {
+        wrong++;
+        System.out.println(what + ": answered " + got + ", due is " + due);
+    }
+}

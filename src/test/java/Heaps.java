@@ -1,0 +1,62 @@
+/** Heaps as texts, and ways to bring one into a state that a test needs. */
+final class Heaps {
+    /** By state: used, bin, tree (R for its root), victim, top. */
+    private static final char[] LETTERS = {'U', 'B', 'R', 'V', 'T'};
+
+    private Heaps() {
+    }
+
+    /** All chunks in their order, each as its state's letter and its size: "U4 B10 T2". */
+    static String layout(VictimHeap heap) {
+        StringBuilder text = new StringBuilder();
+        int unit = 0;
+        while (unit < heap.end()) {
+            int size = heap.size(unit);
+            int state = heap.state(unit);
+            if (size < 2 || state < 0 || state > 4) {
+                return text.append("no chunk at ").append(unit).toString();
+            }
+            text.append(unit == 0 ? "" : " ").append(LETTERS[state]).append(size);
+            unit += size;
+        }
+        return text.toString();
+    }
+
+    /**
+     * A new heap of limit 512 that begins with used chunks of the given sizes, a used chunk of 2
+     * behind each, so that each can be freed without touching another one.
+     */
+    static VictimHeap withChunks(int... sizes) {
+        VictimHeap heap = new VictimHeap(512);
+        for (int size : sizes) {
+            heap.malloc(size - 1);
+            heap.malloc(1);
+        }
+        return heap;
+    }
+
+    /** The pointer of the chunk with this number (from 0) among those that withChunks was given. */
+    static int pointer(int number, int... sizes) {
+        int unit = 0;
+        for (int i = 0; i < number; i++) {
+            unit += sizes[i] + 2;
+        }
+        return unit + 1;
+    }
+
+    /** Writes value + i into each unit i of the data. */
+    static void fill(VictimHeap heap, int p, int value) {
+        for (int i = 0; i < heap.usable(p); i++) {
+            heap.write(p, i, value + i);
+        }
+    }
+
+    /** The data from unit 0 on as a text, a blank between two. */
+    static String data(VictimHeap heap, int p) {
+        StringBuilder text = new StringBuilder();
+        for (int i = 0; i < heap.usable(p); i++) {
+            text.append(i == 0 ? "" : " ").append(heap.read(p, i));
+        }
+        return text.toString();
+    }
+}
