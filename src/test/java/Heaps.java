@@ -14,7 +14,7 @@ final class Heaps {
             int size = heap.size(unit);
             int state = heap.state(unit);
             if (size < 2 || state < 0 || state > 4) {
-                return text.append("no chunk at ").append(unit).toString();
+                return text.append(" no chunk at ").append(unit).toString();
             }
             text.append(unit == 0 ? "" : " ").append(LETTERS[state]).append(size);
             unit += size;
@@ -22,26 +22,14 @@ final class Heaps {
         return text.toString();
     }
 
-    /**
-     * A new heap of limit 512 that begins with used chunks of the given sizes, a used chunk of 2
-     * behind each, so that each can be freed without touching another one.
-     */
-    static VictimHeap withChunks(int... sizes) {
+    /** A heap of limit and END 512 that begins with used chunks of these sizes; the rest is the top. */
+    static VictimHeap sideBySide(int... sizes) {
         VictimHeap heap = new VictimHeap(512);
+        heap.free(heap.malloc(511));
         for (int size : sizes) {
             heap.malloc(size - 1);
-            heap.malloc(1);
         }
         return heap;
-    }
-
-    /** The pointer of the chunk with this number (from 0) among those that withChunks was given. */
-    static int pointer(int number, int... sizes) {
-        int unit = 0;
-        for (int i = 0; i < number; i++) {
-            unit += sizes[i] + 2;
-        }
-        return unit + 1;
     }
 
     /** Writes value + i into each unit i of the data. */
