@@ -415,7 +415,7 @@ public final class VictimHeap {
             top = chunk;
         } else if (state == VICTIM) {
             victim = chunk;
-        } else if (isStored(chunk)) {
+        } else if (state == BIN || state == TREE) {
             states[chunk] = size < LEAST_TREE_SIZE ? BIN : TREE;
             lastArrival++;
             arrivals[chunk] = lastArrival;

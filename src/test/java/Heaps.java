@@ -17,9 +17,24 @@ final class Heaps {
                 return text.append(" no chunk at ").append(unit).toString();
             }
             text.append(unit == 0 ? "" : " ").append(LETTERS[state]).append(size);
+            if (beginsWithin(heap, unit + 1, unit + size)) {
+                text.append(" with another one inside");
+            }
             unit += size;
         }
+        if (beginsWithin(heap, heap.end(), 600)) {
+            text.append(" and one behind END");
+        }
         return text.toString();
+    }
+
+    private static boolean beginsWithin(VictimHeap heap, int from, int to) {
+        for (int unit = from; unit < to; unit++) {
+            if (heap.size(unit) != VictimHeap.NONE || heap.state(unit) != VictimHeap.NONE) {
+                return true;
+            }
+        }
+        return false;
     }
 
     /** A heap of limit and END 512 that begins with used chunks of these sizes; the rest is the top. */

@@ -13,6 +13,7 @@ public final class MallocTest {
         smallFromTree();
         smallFromTreeWithoutRest();
         victimBeforeTreeOfSixteen();
+        fifteenAndSixteen();
         bestOfTree();
         restInTreeIsYoungest();
         treeAgainstVictim();
@@ -179,6 +180,18 @@ public final class MallocTest {
         Check.layout("victim of 18, tree chunk of 16", heap, "R16 U2 U2 V18 U2 T472");
         Check.same("no step 2 for 15", heap.malloc(14), 21);
         Check.layout("no step 2 for 15", heap, "R16 U2 U2 U15 V3 U2 T472");
+    }
+
+    private static void fifteenAndSixteen() {
+        VictimHeap small = Heaps.sideBySide(20, 2);
+        small.free(1);
+        Check.same("step 5 for 15", small.malloc(14), 1);
+        Check.layout("step 5 for 15", small, "U15 V5 U2 T490");
+
+        VictimHeap large = Heaps.sideBySide(20, 2);
+        large.free(1);
+        Check.same("step 6 for 16", large.malloc(15), 1);
+        Check.layout("step 6 for 16", large, "U16 B4 U2 T490");
     }
 
     private static void bestOfTree() {

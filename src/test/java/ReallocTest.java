@@ -183,6 +183,11 @@ public final class ReallocTest {
         Check.same("a free one too small", small.realloc(1, 9), 10);
         Check.layout("a free one too small", small, "B7 U2 U10 T493");
 
+        VictimHeap byOne = Heaps.sideBySide(4, 3, 2);
+        byOne.free(5);
+        Check.same("a free one too small by 1", byOne.realloc(1, 7), 10);
+        Check.layout("a free one too small by 1", byOne, "B7 U2 U8 T495");
+
         VictimHeap bin = Heaps.sideBySide(4, 2, 9, 2);
         Heaps.fill(bin, 1, 30);
         Heaps.fill(bin, 7, 50);

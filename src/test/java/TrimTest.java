@@ -86,6 +86,13 @@ public final class TrimTest {
         Check.same("no chunk at 16", heap.state(16), -1);
         Check.same("END grows again", heap.malloc(1), 17);
         Check.layout("END grows again", heap, "U16 U2 T14");
+
+        VictimHeap over = usedAndTop(16, 16);
+        over.trim(0);
+        over.free(1);
+        Check.layout("another top", over, "T16");
+        Check.same("over where the old top began", over.malloc(20), 1);
+        Check.layout("over where the old top began", over, "U21 T11");
     }
 
     private static void onlyTheTop() {
