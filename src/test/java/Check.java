@@ -2,8 +2,19 @@
 final class Check {
     private static int wrong = 0;
     private static int looked = 0;
+    private static int sentences = 0;
+    private static String sentence = "";
+    private static int lookedBefore = 0;
 
     private Check() {
+    }
+
+    /** What follows shows this sentence of the document; a failure is told with it. */
+    static void sentence(String words) {
+        endSentence();
+        sentences++;
+        sentence = words;
+        lookedBefore = looked;
     }
 
     static void same(String what, long got, long due) {
@@ -37,14 +48,25 @@ final class Check {
     }
 
     static void finish() {
-        System.out.println(looked + " answers looked at, " + wrong + " not as due");
+        endSentence();
+        String shown = sentences == 0 ? "" : sentences + " sentences, ";
+        System.out.println(shown + looked + " answers looked at, " + wrong + " not as due");
         if (wrong != 0 || looked == 0) {
             System.exit(1);
         }
     }
 
+    private static void endSentence() {
+        if (sentences > 0 && looked == lookedBefore) {
+            fail("answers looked at", "0", "some");
+        }
+    }
+
     private static void fail(String what, String got, String due) {
         wrong++;
+        if (!sentence.isEmpty()) {
+            System.out.println("\"" + sentence + "\"");
+        }
         System.out.println(what + ": answered " + got + ", due is " + due);
     }
 }
