@@ -4,16 +4,16 @@ public final class AlignEdgesTest {
     private static final int MAX = Integer.MAX_VALUE;
 
     public static void main(String[] args) {
-        belowOne();
-        unitsTaken();
-        pointerIsMultiple();
-        partInFront();
-        partInFrontIsFreed();
-        restIsFreed();
-        fails();
-        above511();
-        otherAlignments();
-        Check.finish();
+        Check.each(
+            AlignEdgesTest::belowOne,
+            AlignEdgesTest::unitsTaken,
+            AlignEdgesTest::pointerIsMultiple,
+            AlignEdgesTest::partInFront,
+            AlignEdgesTest::partInFrontIsFreed,
+            AlignEdgesTest::restIsFreed,
+            AlignEdgesTest::fails,
+            AlignEdgesTest::above511,
+            AlignEdgesTest::otherAlignments);
     }
 
     /** An align in a heap of this limit that is laid as told, and how it lies then. */
@@ -27,18 +27,19 @@ public final class AlignEdgesTest {
     }
 
     private static void belowOne() {
-        Check.sentence("(n below 1 counts as 1) (align)");
+        Check.sentence("Promise 6", "(n below 1 counts as 1)");
         for (int n : new int[] {1, 0, -1, -2, -4, -7, -511, MIN + 1, MIN}) {
             called(64, "T16", n, 4, 4, "B3 U2 T11");
             called(64, "U3 T13", n, 4, 4, "U3 U2 T11");
             called(64, "B8 U2 T6", n, 4, 4, "B3 U2 B3 U2 T6");
+            called(64, "B7 U2 T7", n, 4, 12, "B7 U2 B2 U2 T19");
         }
         called(64, "T16", 2, 4, 4, "B3 U3 T10");
         called(64, "B8 U2 T6", 2, 4, 16, "B8 U2 B5 U4 T13");
     }
 
     private static void unitsTaken() {
-        Check.sentence("whose pointer is a multiple of a: n + a + 3 units are taken.");
+        Check.sentence("Promise 6", "whose pointer is a multiple of a: n + a + 3 units are taken.");
         called(16, "T16", 5, 8, 8, "B7 U6 T3");
         called(16, "T16", 6, 8, 0, "T16");
         called(16, "T16", 11, 2, 4, "B3 U13");
@@ -52,7 +53,7 @@ public final class AlignEdgesTest {
     }
 
     private static void pointerIsMultiple() {
-        Check.sentence("If the pointer is no multiple, the chunk is parted");
+        Check.sentence("Promise 6", "If the pointer is no multiple, the chunk is parted");
         called(64, "U3 T13", 3, 4, 4, "U3 U4 T9");
         called(64, "U4 T12", 3, 4, 8, "U4 B3 U4 T5");
         called(64, "U3 T13", 1, 2, 4, "U3 U2 T11");
@@ -65,8 +66,9 @@ public final class AlignEdgesTest {
     }
 
     private static void partInFront() {
-        Check.sentence("the part in front, with 2 or more units, the fewest with which the part"
-            + " behind it has a pointer that is a multiple");
+        Check.sentence("Promise 6",
+            "the part in front, with 2 or more units, the fewest with which the part behind "
+            + "it has a pointer that is a multiple");
         called(64, "U5 T11", 1, 8, 8, "U5 B2 U2 T23");
         called(64, "U6 T10", 1, 8, 16, "U6 B9 U3 T14");
         called(64, "U4 T12", 1, 8, 8, "U4 B3 U2 T7");
@@ -79,7 +81,7 @@ public final class AlignEdgesTest {
     }
 
     private static void partInFrontIsFreed() {
-        Check.sentence("and that one; the part in front is freed.");
+        Check.sentence("Promise 6", "and that one; the part in front is freed.");
         VictimHeap bin = called(64, "B3 U2 B4 U3 T4", 1, 4, 16, "B3 U2 B4 U3 B3 U2 T15");
         Check.same("bin 3", bin.count(3), 2);
         Check.same("the part in front is the youngest", bin.malloc(2), 13);
@@ -91,8 +93,9 @@ public final class AlignEdgesTest {
     }
 
     private static void restIsFreed() {
-        Check.sentence("Of what is used now, the rest behind its first n + 1 units is freed,"
-            + " if it has 2 or more.");
+        Check.sentence("Promise 6",
+            "Of what is used now, the rest behind its first n + 1 units is freed, if it has 2 "
+            + "or more.");
         VictimHeap one = called(64, "U2 B8 U6", 1, 4, 8, "U2 B5 U3 U6");
         Check.same("rest of 1, usable", one.usable(8), 2);
         VictimHeap two = called(64, "U2 B9 U5", 1, 4, 8, "U2 B5 U2 B2 U5");
@@ -106,7 +109,7 @@ public final class AlignEdgesTest {
     }
 
     private static void fails() {
-        Check.sentence("0 when it fails (align)");
+        Check.sentence("Promise 6", "0 when it fails");
         VictimHeap most = Refusal.mixed();
         Check.same("align(32, 16) of 51 units", most.align(32, 16), 80);
         Check.same("END", most.end(), 128);
@@ -123,7 +126,7 @@ public final class AlignEdgesTest {
     }
 
     private static void above511() {
-        Check.sentence("n is above 511 (align)");
+        Check.sentence("Promise 6", "n is above 511");
         // 511 fails, too: there is no room for 511 + a + 3 units.
         for (int n : new int[] {511, 512, 513, 65536, MAX - 19, MAX - 18, MAX - 17, MAX - 5,
             MAX - 4, MAX - 3, MAX - 1, MAX}) {
@@ -138,7 +141,7 @@ public final class AlignEdgesTest {
     }
 
     private static void otherAlignments() {
-        Check.sentence("or a is not 2, 4, 8 or 16.");
+        Check.sentence("Promise 6", "or a is not 2, 4, 8 or 16.");
         for (int a = -40; a <= 70; a++) {
             if (a == 2 || a == 4 || a == 8 || a == 16) {
                 int p = Refusal.mixed().align(1, a);

@@ -9,11 +9,23 @@ final class Check {
     private Check() {
     }
 
-    /** What follows shows this sentence of the document; a failure is told with it. */
-    static void sentence(String words) {
+    /** Runs them all: what one of them throws is a failure, but does not keep the others back. */
+    static void each(Runnable... tests) {
+        for (Runnable test : tests) {
+            try {
+                test.run();
+            } catch (RuntimeException thrown) {
+                fail("a call", "by throwing " + thrown, "an answer");
+            }
+        }
+        finish();
+    }
+
+    /** What follows shows these words of the document; a failure is told with them. */
+    static void sentence(String place, String words) {
         endSentence();
         sentences++;
-        sentence = words;
+        sentence = place + ": \"" + words + "\"";
         lookedBefore = looked;
     }
 
@@ -65,7 +77,7 @@ final class Check {
     private static void fail(String what, String got, String due) {
         wrong++;
         if (!sentence.isEmpty()) {
-            System.out.println("\"" + sentence + "\"");
+            System.out.println(sentence);
         }
         System.out.println(what + ": answered " + got + ", due is " + due);
     }

@@ -13,20 +13,20 @@ public final class DataEdgesTest {
         Map.of(5, 1, 11, 1, 30, 1, 49, 1, 51, 2, 71, 1, 73, 4);
 
     public static void main(String[] args) {
-        usable();
-        usableOfNoPointer();
-        read();
-        readOfNone();
-        write();
-        writeRefused();
-        Check.finish();
+        Check.each(
+            DataEdgesTest::usable,
+            DataEdgesTest::usableOfNoPointer,
+            DataEdgesTest::read,
+            DataEdgesTest::readOfNone,
+            DataEdgesTest::write,
+            DataEdgesTest::writeRefused);
     }
 
     private static void usable() {
-        Check.sentence("How many units of data a used chunk has");
-        for (int n = 1; n <= 511; n += n < 40 ? 1 : 16) {
+        Check.sentence("Promise 8", "How many units of data a used chunk has");
+        for (int n = 1; n <= 511; n++) {
             VictimHeap heap = Heaps.sideBySide(n + 1);
-            // 510 units of data of 511 in all would leave a rest of one.
+            // With 511 units a rest of one would be left: then it is data, too.
             Check.same("usable of " + (n + 1) + " units", heap.usable(1), n == 510 ? 511 : n);
         }
         VictimHeap more = Heaps.of(16, "B6 U10");
@@ -35,7 +35,7 @@ public final class DataEdgesTest {
     }
 
     private static void usableOfNoPointer() {
-        Check.sentence("0 when p is no pointer of one.");
+        Check.sentence("Promise 8", "0 when p is no pointer of one.");
         VictimHeap heap = Refusal.mixed();
         for (int p = -3; p <= 132; p++) {
             Check.same("usable(" + p + ")", heap.usable(p), DATA.getOrDefault(p, 0));
@@ -51,7 +51,7 @@ public final class DataEdgesTest {
     }
 
     private static void read() {
-        Check.sentence("Unit i of the data of a used chunk (from 0)");
+        Check.sentence("Promise 9", "Unit i of the data of a used chunk (from 0)");
         VictimHeap heap = Heaps.written(16, "U4 U5 B2 U5");
         Check.same("data of 4 units", Heaps.data(heap, 1), "101 102 103");
         Check.same("data of 5 units", Heaps.data(heap, 5), "105 106 107 108");
@@ -61,7 +61,7 @@ public final class DataEdgesTest {
     }
 
     private static void readOfNone() {
-        Check.sentence("0 when there is none. (read)");
+        Check.sentence("Promise 9", "0 when there is none.");
         VictimHeap heap = Heaps.written(16, "U4 U5 B2 U5");
         for (int i : new int[] {-1, -2, -4, -5, 4, 5, 10, 11, 508, 511, MAX - 5, MAX - 4, MAX, MIN,
             MIN + 1, MIN + 5}) {
@@ -96,7 +96,7 @@ public final class DataEdgesTest {
     }
 
     private static void write() {
-        Check.sentence("Unit i of the data of a used chunk becomes v: true");
+        Check.sentence("Promise 10", "Unit i of the data of a used chunk becomes v: true");
         for (int v : new int[] {0, 1, -1, MAX, MIN}) {
             VictimHeap heap = Heaps.written(16, "U4 U5 B2 U5");
             Check.same("write(5, 0, " + v + ")", heap.write(5, 0, v), true);
@@ -109,7 +109,7 @@ public final class DataEdgesTest {
     }
 
     private static void writeRefused() {
-        Check.sentence("false, refused, when there is none. (write)");
+        Check.sentence("Promise 10", "false, refused, when there is none.");
         Map<Integer, List<Integer>> wrong = new HashMap<>();
         wrong.put(5, List.of(-1, -2, 1, 2, 6, 123, MAX - 5, MAX - 4, MAX, MIN, MIN + 1));
         wrong.put(51, List.of(-1, -46, 2, 3, MAX, MIN));

@@ -6,21 +6,21 @@ public final class GiveEdgesTest {
     private static final int MAX = Integer.MAX_VALUE;
 
     public static void main(String[] args) {
-        limitOfNewObject();
-        newObjectIsEmpty();
-        mallocBelowOne();
-        mallocAnswersPointer();
-        mallocFails();
-        mallocAbove511();
-        callocAsMalloc();
-        callocData();
-        freeUsed();
-        freeRefused();
-        Check.finish();
+        Check.each(
+            GiveEdgesTest::limitOfNewObject,
+            GiveEdgesTest::newObjectIsEmpty,
+            GiveEdgesTest::mallocBelowOne,
+            GiveEdgesTest::mallocAnswersPointer,
+            GiveEdgesTest::mallocFails,
+            GiveEdgesTest::mallocAbove511,
+            GiveEdgesTest::callocAsMalloc,
+            GiveEdgesTest::callocData,
+            GiveEdgesTest::freeUsed,
+            GiveEdgesTest::freeRefused);
     }
 
     private static void limitOfNewObject() {
-        Check.sentence("The limit is limit, but at least 16 and at most 512.");
+        Check.sentence("Promise 1", "The limit is limit, but at least 16 and at most 512.");
         // END moves by 16: a limit shows in the last multiple of 16 that is not above it.
         int[][] limitsAndEnds = {
             {MIN, 16}, {-512, 16}, {-1, 16}, {0, 16}, {1, 16}, {15, 16}, {16, 16}, {17, 16},
@@ -40,7 +40,7 @@ public final class GiveEdgesTest {
     }
 
     private static void newObjectIsEmpty() {
-        Check.sentence("A new object (it is empty)");
+        Check.sentence("Promise 1, it is empty", "A new object");
         VictimHeap heap = new VictimHeap(100);
         Check.same("end()", heap.end(), 0);
         Check.same("count(1)", heap.count(1), 0);
@@ -55,7 +55,7 @@ public final class GiveEdgesTest {
     }
 
     private static void mallocBelowOne() {
-        Check.sentence("(n below 1 counts as 1): n + 1 units are taken. (malloc)");
+        Check.sentence("Promise 2", "(n below 1 counts as 1): n + 1 units are taken.");
         for (int n : new int[] {1, 0, -1, -2, -511, -512, MIN + 1, MIN}) {
             VictimHeap heap = new VictimHeap(64);
             Check.same("malloc(" + n + ")", heap.malloc(n), 1);
@@ -70,7 +70,7 @@ public final class GiveEdgesTest {
     }
 
     private static void mallocAnswersPointer() {
-        Check.sentence("A used chunk with at least n units of data .. Answers its pointer");
+        Check.sentence("Promise 2", "A used chunk with at least n units of data");
         for (int n = 1; n <= 511; n += n < 40 ? 1 : 10) {
             VictimHeap heap = new VictimHeap(512);
             int p = heap.malloc(n);
@@ -85,7 +85,7 @@ public final class GiveEdgesTest {
     }
 
     private static void mallocFails() {
-        Check.sentence("0 when it fails (malloc)");
+        Check.sentence("Promise 2", "0 when it fails");
         VictimHeap all = new VictimHeap(32);
         Check.same("malloc(31) of 32", all.malloc(31), 1);
         Refusal.same("malloc(32) of 32", () -> new VictimHeap(32), heap -> heap.malloc(32), 0);
@@ -96,7 +96,7 @@ public final class GiveEdgesTest {
     }
 
     private static void mallocAbove511() {
-        Check.sentence("or n is above 511. (malloc)");
+        Check.sentence("Promise 2", "or n is above 511.");
         VictimHeap all = new VictimHeap(512);
         Check.same("malloc(511)", all.malloc(511), 1);
         Check.layout("malloc(511)", all, "U512");
@@ -107,7 +107,7 @@ public final class GiveEdgesTest {
     }
 
     private static void callocAsMalloc() {
-        Check.sentence("As malloc(n) (calloc)");
+        Check.sentence("Promise 3", "As malloc(n)");
         for (int n : new int[] {1, 0, -1, MIN}) {
             VictimHeap heap = new VictimHeap(64);
             Check.same("calloc(" + n + ")", heap.calloc(n), 1);
@@ -130,7 +130,7 @@ public final class GiveEdgesTest {
     }
 
     private static void callocData() {
-        Check.sentence("but all its data become 0.");
+        Check.sentence("Promise 3", "but all its data become 0.");
         VictimHeap exact = Heaps.written(16, "U2 B5 U2 T7");
         Check.same("calloc(4)", exact.calloc(4), 3);
         Check.same("the data alone", Heaps.numbers(exact),
@@ -153,7 +153,7 @@ public final class GiveEdgesTest {
     }
 
     private static void freeUsed() {
-        Check.sentence("A used chunk is freed: true");
+        Check.sentence("Promise 4", "A used chunk is freed: true");
         String[] after = {
             "B10 U2 R17 U2 R17 U2 U3 V17 U2 U5 T3",
             "B4 U2 R23 U2 R17 U2 U3 V17 U2 U5 T3",
@@ -172,7 +172,7 @@ public final class GiveEdgesTest {
     }
 
     private static void freeRefused() {
-        Check.sentence("false, refused, when p is no pointer of a used chunk. (free)");
+        Check.sentence("Promise 4", "false, refused, when p is no pointer of a used chunk.");
         List<Integer> pointers = List.of(5, 11, 30, 49, 51, 71, 73);
         for (int p = -3; p <= 132; p++) {
             int tried = p;

@@ -62,50 +62,65 @@ final class Heaps {
 
     /** A layout without its top: with the top that it has where END is 512. */
     static String upTo512(String front) {
-        int units = 0;
-        for (String chunk : front.split(" ")) {
-            units += Integer.parseInt(chunk.substring(1));
-        }
-        return front + " T" + (512 - units);
+        return front + " T" + (512 - unitsOf(front.split(" ")));
     }
 
     private static VictimHeap made(int limit, String layout, boolean written) {
         String[] chunks = layout.split(" ");
-        int units = 0;
-        for (String chunk : chunks) {
-            units += sizeIn(chunk);
-        }
         VictimHeap heap = new VictimHeap(limit);
-        heap.malloc(units - 1);
+        heap.malloc(unitsOf(chunks) - 1);
         if (written) {
             fill(heap, 1, 101);
         }
         heap.free(1);
-        // What shall be a victim is at first one chunk with the used one before it.
-        int unit = 0;
+        useAll(heap, chunks);
+        cutVictim(heap, chunks);
+        freeStored(heap, chunks);
+        Check.layout("made", heap, layout);
+        return heap;
+    }
+
+    /** What shall be a victim is at first one chunk with the used one before it. */
+    private static void useAll(VictimHeap heap, String[] chunks) {
         for (int i = 0; i < chunks.length; i++) {
-            boolean beforeVictim = i + 1 < chunks.length && chunks[i + 1].charAt(0) == 'V';
-            int size = sizeIn(chunks[i]) + (beforeVictim ? sizeIn(chunks[i + 1]) : 0);
-            if (chunks[i].charAt(0) != 'V' && chunks[i].charAt(0) != 'T') {
-                heap.malloc(size - 1);
+            if (!is(chunks, i, "VT")) {
+                int more = is(chunks, i + 1, "V") ? sizeIn(chunks[i + 1]) : 0;
+                heap.malloc(sizeIn(chunks[i]) + more - 1);
             }
         }
-        for (int i = 0; i + 1 < chunks.length; i++) {
-            if (chunks[i + 1].charAt(0) == 'V') {
+    }
+
+    private static void cutVictim(VictimHeap heap, String[] chunks) {
+        int unit = 0;
+        for (int i = 0; i < chunks.length; i++) {
+            if (is(chunks, i + 1, "V")) {
                 heap.free(unit + 1);
                 heap.malloc(sizeIn(chunks[i]) - 1);
             }
             unit += sizeIn(chunks[i]);
         }
-        unit = 0;
-        for (String chunk : chunks) {
-            if (chunk.charAt(0) == 'B' || chunk.charAt(0) == 'R') {
+    }
+
+    private static void freeStored(VictimHeap heap, String[] chunks) {
+        int unit = 0;
+        for (int i = 0; i < chunks.length; i++) {
+            if (is(chunks, i, "BR")) {
                 heap.free(unit + 1);
             }
-            unit += sizeIn(chunk);
+            unit += sizeIn(chunks[i]);
         }
-        Check.layout("made", heap, layout);
-        return heap;
+    }
+
+    private static boolean is(String[] chunks, int i, String letters) {
+        return i < chunks.length && letters.indexOf(chunks[i].charAt(0)) >= 0;
+    }
+
+    private static int unitsOf(String[] chunks) {
+        int units = 0;
+        for (String chunk : chunks) {
+            units += sizeIn(chunk);
+        }
+        return units;
     }
 
     private static int sizeIn(String chunk) {

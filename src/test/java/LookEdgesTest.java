@@ -8,19 +8,19 @@ public final class LookEdgesTest {
     private static final int[] FAR = {511, 512, 513, -512, MAX - 1, MAX, MIN, MIN + 1};
 
     public static void main(String[] args) {
-        sizes();
-        states();
-        bins();
-        tree();
-        usedAndAll();
-        otherCounts();
-        end();
-        victimAndTop();
-        noVictimNoTop();
-        sums();
-        otherTotals();
-        lookingChangesNothing();
-        Check.finish();
+        Check.each(
+            LookEdgesTest::sizes,
+            LookEdgesTest::states,
+            LookEdgesTest::bins,
+            LookEdgesTest::tree,
+            LookEdgesTest::usedAndAll,
+            LookEdgesTest::otherCounts,
+            LookEdgesTest::end,
+            LookEdgesTest::victimAndTop,
+            LookEdgesTest::noVictimNoTop,
+            LookEdgesTest::sums,
+            LookEdgesTest::otherTotals,
+            LookEdgesTest::lookingChangesNothing);
     }
 
     /** By the first units of the chunks of Refusal.mixed: {size, state}. */
@@ -43,7 +43,8 @@ public final class LookEdgesTest {
     }
 
     private static void sizes() {
-        Check.sentence("The size of the chunk that begins at a unit; NONE when none does.");
+        Check.sentence("Promise 11",
+            "The size of the chunk that begins at a unit; NONE when none does.");
         Map<Integer, int[]> chunks = chunks();
         VictimHeap heap = Refusal.mixed();
         for (int unit = -3; unit <= 132; unit++) {
@@ -65,8 +66,8 @@ public final class LookEdgesTest {
     }
 
     private static void states() {
-        Check.sentence("The state of the chunk that begins at a unit (USED, ..);"
-            + " NONE when none does.");
+        Check.sentence("Promise 12",
+            "The state of the chunk that begins at a unit (USED, ..); NONE when none does.");
         Map<Integer, int[]> chunks = chunks();
         VictimHeap heap = Refusal.mixed();
         for (int unit = -3; unit <= 132; unit++) {
@@ -98,7 +99,7 @@ public final class LookEdgesTest {
     }
 
     private static void bins() {
-        Check.sentence("How many chunks lie in bin k (2 .. 15)");
+        Check.sentence("Promise 13", "How many chunks lie in bin k (2 .. 15)");
         for (int k = 2; k <= 15; k++) {
             VictimHeap heap = Heaps.sideBySide(k, 2, k, 2, k, 2);
             for (int i = 0; i < 3; i++) {
@@ -118,7 +119,7 @@ public final class LookEdgesTest {
     }
 
     private static void tree() {
-        Check.sentence("or for k = 16 in the tree");
+        Check.sentence("Promise 13", "or for k = 16 in the tree");
         VictimHeap heap = Heaps.sideBySide(15, 2, 16, 2, 17, 2, 40, 2);
         heap.free(1);
         Check.same("a chunk of 15", heap.count(16), 0);
@@ -134,7 +135,7 @@ public final class LookEdgesTest {
     }
 
     private static void usedAndAll() {
-        Check.sentence("for k = 0 how many chunks are used, 1 how many there are");
+        Check.sentence("Promise 13", "for k = 0 how many chunks are used, 1 how many there are");
         VictimHeap mixed = Refusal.mixed();
         Check.same("count(0)", mixed.count(0), 7);
         Check.same("count(1)", mixed.count(1), 13);
@@ -150,7 +151,7 @@ public final class LookEdgesTest {
     }
 
     private static void otherCounts() {
-        Check.sentence("NONE for other k.");
+        Check.sentence("Promise 13", "NONE for other k.");
         int[] wrong = {-1, -2, 17, 18, 31, 32, 512, -16, MAX, MIN};
         VictimHeap mixed = Refusal.mixed();
         VictimHeap none = new VictimHeap(64);
@@ -166,7 +167,7 @@ public final class LookEdgesTest {
     }
 
     private static void end() {
-        Check.sentence("END.");
+        Check.sentence("Promise 14", "END.");
         VictimHeap heap = new VictimHeap(512);
         Check.same("at first", heap.end(), 0);
         heap.malloc(15);
@@ -189,7 +190,7 @@ public final class LookEdgesTest {
     }
 
     private static void victimAndTop() {
-        Check.sentence("The size of the victim (which VICTIM), of the top (TOP)");
+        Check.sentence("Promise 15", "The size of the victim (which VICTIM), of the top (TOP)");
         VictimHeap mixed = Refusal.mixed();
         Check.same("total(VICTIM)", mixed.total(VictimHeap.VICTIM), 17);
         Check.same("total(TOP)", mixed.total(VictimHeap.TOP), 3);
@@ -201,7 +202,7 @@ public final class LookEdgesTest {
     }
 
     private static void noVictimNoTop() {
-        Check.sentence("0 when there is none");
+        Check.sentence("Promise 15", "0 when there is none");
         VictimHeap none = new VictimHeap(64);
         Check.same("total(VICTIM) of none", none.total(VictimHeap.VICTIM), 0);
         Check.same("total(TOP) of none", none.total(VictimHeap.TOP), 0);
@@ -222,8 +223,8 @@ public final class LookEdgesTest {
     }
 
     private static void sums() {
-        Check.sentence("of all used chunks together (USED), of all in the bins (BIN),"
-            + " in the tree (TREE)");
+        Check.sentence("Promise 15",
+            "of all used chunks together (USED), of all in the bins (BIN), in the tree (TREE)");
         VictimHeap mixed = Refusal.mixed();
         Check.same("total(USED)", mixed.total(VictimHeap.USED), 18);
         Check.same("total(BIN)", mixed.total(VictimHeap.BIN), 8);
@@ -240,7 +241,7 @@ public final class LookEdgesTest {
     }
 
     private static void otherTotals() {
-        Check.sentence("NONE for another one.");
+        Check.sentence("Promise 15", "NONE for another one.");
         VictimHeap mixed = Refusal.mixed();
         VictimHeap none = new VictimHeap(64);
         for (int which : new int[] {-1, -2, 5, 6, 16, MAX, MIN}) {
@@ -253,7 +254,8 @@ public final class LookEdgesTest {
     }
 
     private static void lookingChangesNothing() {
-        Check.sentence("A call that looks changes nothing (promises 8, 9, 11 to 15)");
+        Check.sentence("Not promised, calls that look",
+            "Nothing is promised beyond the answers and state changes described above");
         for (int number : new int[] {MIN, -1, 0, 1, 4, 5, 53, 54, 77, 80, 81, MAX}) {
             Refusal.same("usable and read of " + number, Refusal::mixed,
                 heap -> "" + (heap.usable(number) + heap.read(number, 0) >= 0), true);

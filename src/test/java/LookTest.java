@@ -11,17 +11,10 @@ public final class LookTest {
     };
 
     public static void main(String[] args) {
-        VictimHeap heap = Heaps.sideBySide(4, 5, 2, 20, 2, 5, 2, 15, 2, 16, 2, 30, 2);
-        heap.free(76);
-        heap.malloc(3);
-        heap.free(5);
-        heap.free(12);
-        heap.free(34);
-        heap.free(41);
-        heap.free(58);
+        sizesAndStates();
+        VictimHeap heap = made();
         // Twice: looking changes nothing.
         for (int round = 0; round < 2; round++) {
-            sizesAndStates(heap);
             counts(heap);
             totals(heap);
             Check.same("end()", heap.end(), 512);
@@ -30,9 +23,24 @@ public final class LookTest {
         Check.finish();
     }
 
-    private static void sizesAndStates(VictimHeap heap) {
+    private static VictimHeap made() {
+        VictimHeap heap = Heaps.sideBySide(4, 5, 2, 20, 2, 5, 2, 15, 2, 16, 2, 30, 2);
+        heap.free(76);
+        heap.malloc(3);
+        heap.free(5);
+        heap.free(12);
+        heap.free(34);
+        heap.free(41);
+        heap.free(58);
+        return heap;
+    }
+
+    private static void sizesAndStates() {
+        VictimHeap heap = made();
         int chunk = 0;
         for (int unit = 0; unit < 512; unit++) {
+            // An object is good for 512 calls.
+            heap = unit % 200 == 0 ? made() : heap;
             boolean begins = chunk < CHUNKS.length && CHUNKS[chunk][0] == unit;
             Check.same("size(" + unit + ")", heap.size(unit), begins ? CHUNKS[chunk][1] : -1);
             Check.same("state(" + unit + ")", heap.state(unit), begins ? CHUNKS[chunk][2] : -1);

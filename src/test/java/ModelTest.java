@@ -1,10 +1,11 @@
 /**
- * Promises 1 to 15 together: runs of 512 calls, each made on a VictimHeap and on a PlainHeap; after
- * every call all that can be seen of both must be the same. The calls come from a counting formula
- * with a fixed start, so every run of this test makes the same ones.
+ * Promises 1 to 15 together: runs of 512 calls, each made on a VictimHeap and on a PlainHeap, whose
+ * answers must be the same. The first calls of a run change things, the others look at what they came
+ * to; there are many runs, as an object is good for 512 calls, looks included. The calls come from a
+ * counting formula with a fixed start, so every run of this test makes the same ones.
  */
 public final class ModelTest {
-    private static final int RUNS = 400;
+    private static final int RUNS = 12000;
     private static final int CALLS = 512;
     private static final int[] LIMITS = {512, 200, 64, 100, 300, 16, 512, 47, 150, 512, -3, 1000};
     private static final int[] ODD = {0, -1, 1, 511, 512, 513, 17, 16, 15,
@@ -31,10 +32,8 @@ public final class ModelTest {
     public static void main(String[] args) {
         for (int run = 0; run < RUNS && Check.allRight(); run++) {
             ModelTest test = new ModelTest(run);
-            for (int call = 0; call < CALLS && Check.allRight(); call++) {
-                test.call();
-                test.compare();
-            }
+            test.change(20 + test.below(CALLS - 100));
+            test.look();
         }
         Check.finish();
     }
@@ -67,8 +66,14 @@ public final class ModelTest {
         return 1;
     }
 
+    private void change(int times) {
+        for (int call = 0; call < times && Check.allRight(); call++) {
+            call();
+        }
+        Check.same("run " + run + ": faults", plain.faults(), "");
+    }
+
     private void call() {
-        calls++;
         int kind = below(100);
         if (kind < 28) {
             int n = amount();
@@ -99,31 +104,38 @@ public final class ModelTest {
         }
     }
 
-    private void compare() {
+    private void look() {
         same("end()", heap.end(), plain.end());
-        for (int k = -1; k <= 17; k++) {
+        for (int k = 0; k <= 16; k++) {
             same("count(" + k + ")", heap.count(k), plain.count(k));
         }
-        for (int which = -1; which <= 5; which++) {
+        for (int which = 0; which <= 4; which++) {
             same("total(" + which + ")", heap.total(which), plain.total(which));
         }
-        int unit = 0;
-        while (unit < plain.end() && Check.allRight()) {
-            int size = plain.size(unit);
-            same("size(" + unit + ")", heap.size(unit), size);
-            same("size(" + (unit + 1) + ")", heap.size(unit + 1), -1);
-            same("state(" + unit + ")", heap.state(unit), plain.state(unit));
-            same("usable(" + (unit + 1) + ")", heap.usable(unit + 1), plain.usable(unit + 1));
-            for (int i = -1; i < size; i++) {
-                same("read(" + (unit + 1) + ", " + i + ")",
-                    heap.read(unit + 1, i), plain.read(unit + 1, i));
+        // From a unit anywhere: where the calls do not last for all, another run sees the others.
+        int from = below(plain.end() + 1);
+        for (int i = 0; i < plain.end(); i++) {
+            int unit = (from + i) % plain.end();
+            if (plain.size(unit) > 0) {
+                lookAt(unit);
             }
-            unit += size;
         }
-        Check.same("run " + run + ": faults", plain.faults(), "");
+    }
+
+    private void lookAt(int unit) {
+        if (calls + plain.size(unit) + 2 > CALLS) {
+            return;
+        }
+        same("size(" + unit + ")", heap.size(unit), plain.size(unit));
+        same("state(" + unit + ")", heap.state(unit), plain.state(unit));
+        for (int i = 0; i < plain.usable(unit + 1); i++) {
+            same("read(" + (unit + 1) + ", " + i + ")",
+                heap.read(unit + 1, i), plain.read(unit + 1, i));
+        }
     }
 
     private void same(String what, int got, int due) {
+        calls++;
         if (got != due) {
             Check.same("run " + run + ", call " + calls + ": " + what, got, due);
         }

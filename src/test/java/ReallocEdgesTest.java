@@ -6,24 +6,24 @@ public final class ReallocEdgesTest {
     private static final int MAX = Integer.MAX_VALUE;
 
     public static void main(String[] args) {
-        belowOne();
-        restOfTwo();
-        hasFewer();
-        endGrows();
-        endGrowsBehindTop();
-        endDoesNotGrow();
-        notAboveLimit();
-        newUnitsBelongToTop();
-        freeChunkBehind();
-        restIsWhatItWas();
-        restIntoStore();
-        taken();
-        copied();
-        oldOneIsFreed();
-        fails();
-        above511();
-        noPointer();
-        Check.finish();
+        Check.each(
+            ReallocEdgesTest::belowOne,
+            ReallocEdgesTest::restOfTwo,
+            ReallocEdgesTest::hasFewer,
+            ReallocEdgesTest::endGrows,
+            ReallocEdgesTest::endGrowsBehindTop,
+            ReallocEdgesTest::endDoesNotGrow,
+            ReallocEdgesTest::notAboveLimit,
+            ReallocEdgesTest::newUnitsBelongToTop,
+            ReallocEdgesTest::freeChunkBehind,
+            ReallocEdgesTest::restIsWhatItWas,
+            ReallocEdgesTest::restIntoStore,
+            ReallocEdgesTest::taken,
+            ReallocEdgesTest::copied,
+            ReallocEdgesTest::oldOneIsFreed,
+            ReallocEdgesTest::fails,
+            ReallocEdgesTest::above511,
+            ReallocEdgesTest::noPointer);
     }
 
     /** A realloc in a heap of this limit that is laid as told, and how it lies then. */
@@ -37,7 +37,7 @@ public final class ReallocEdgesTest {
     }
 
     private static void belowOne() {
-        Check.sentence("(n below 1 counts as 1, s = n + 1)");
+        Check.sentence("Promise 5", "(n below 1 counts as 1, s = n + 1)");
         for (int n : new int[] {1, 0, -1, -2, -511, MIN + 1, MIN}) {
             called(16, "U4 U12", 1, n, 1, "U2 B2 U12");
             called(16, "U3 U13", 1, n, 1, "U3 U13");
@@ -48,8 +48,9 @@ public final class ReallocEdgesTest {
     }
 
     private static void restOfTwo() {
-        Check.sentence("If it has s or more units, and the rest behind the first s is 2 or more,"
-            + " the rest is freed.");
+        Check.sentence("Promise 5",
+            "If it has s or more units, and the rest behind the first s is 2 or more, the "
+            + "rest is freed.");
         called(16, "U6 U10", 1, 5, 1, "U6 U10");
         called(16, "U6 U10", 1, 4, 1, "U6 U10");
         called(16, "U6 U10", 1, 3, 1, "U4 B2 U10");
@@ -66,7 +67,7 @@ public final class ReallocEdgesTest {
     }
 
     private static void hasFewer() {
-        Check.sentence("If it has fewer");
+        Check.sentence("Promise 5", "If it has fewer");
         called(32, "U6 U2 B7 U2 T15", 1, 5, 1, "U6 U2 B7 U2 T15");
         called(32, "U6 U2 B7 U2 T15", 1, 6, 9, "B6 U2 U7 U2 T15");
         called(16, "U6 B7 U3", 1, 5, 1, "U6 B7 U3");
@@ -74,8 +75,9 @@ public final class ReallocEdgesTest {
     }
 
     private static void endGrows() {
-        Check.sentence("if it ends at END .. and they have too few units together,"
-            + " END grows by the least multiple of 16 with which they have s");
+        Check.sentence("Promise 5, it ends at END",
+            "they have too few units together, END grows by the least multiple of 16 with "
+            + "which they have s");
         called(64, "U4 U12", 5, 11, 5, "U4 U12");
         called(64, "U4 U12", 5, 12, 5, "U4 U13 T15");
         called(64, "U4 U12", 5, 25, 5, "U4 U26 T2");
@@ -89,8 +91,9 @@ public final class ReallocEdgesTest {
     }
 
     private static void endGrowsBehindTop() {
-        Check.sentence("or the top touches its end, and they have too few units together,"
-            + " END grows by the least multiple of 16 with which they have s");
+        Check.sentence("Promise 5",
+            "or the top touches its end, and they have too few units together, END grows by "
+            + "the least multiple of 16 with which they have s");
         called(64, "U4 U8 T4", 5, 10, 5, "U4 U12");
         called(64, "U4 U8 T4", 5, 11, 5, "U4 U12");
         called(64, "U4 U8 T4", 5, 12, 5, "U4 U13 T15");
@@ -102,7 +105,7 @@ public final class ReallocEdgesTest {
     }
 
     private static void endDoesNotGrow() {
-        Check.sentence("if it ends at END, or the top touches its end (and not otherwise)");
+        Check.sentence("Promise 5", "if it ends at END, or the top touches its end");
         called(64, "U4 U2 R20 U6", 1, 9, 7, "B4 U2 U10 V10 U6");
         called(64, "U4 B3 U2 R20 U3", 1, 9, 10, "B7 U2 U10 V10 U3");
         called(64, "U4 U2 R20 U2 T4", 1, 9, 7, "B4 U2 U10 V10 U2 T4");
@@ -110,7 +113,7 @@ public final class ReallocEdgesTest {
     }
 
     private static void notAboveLimit() {
-        Check.sentence("if it is not above the limit then (realloc)");
+        Check.sentence("Promise 5", "if it is not above the limit then");
         called(32, "U4 U12", 5, 27, 5, "U4 U28");
         called(32, "U4 U12", 5, 28, 0, "U4 U12");
         called(31, "U4 U12", 5, 12, 0, "U4 U12");
@@ -124,7 +127,7 @@ public final class ReallocEdgesTest {
     }
 
     private static void newUnitsBelongToTop() {
-        Check.sentence("(the new units belong to the top)");
+        Check.sentence("Promise 5", "(the new units belong to the top)");
         VictimHeap heap = called(64, "U4 U12", 5, 12, 5, "U4 U13 T15");
         Check.same("total(TOP)", heap.total(VictimHeap.TOP), 15);
         Check.same("the next one is from the top", heap.malloc(3), 18);
@@ -135,8 +138,9 @@ public final class ReallocEdgesTest {
     }
 
     private static void freeChunkBehind() {
-        Check.sentence("When a free chunk touches its end now, and both have s or more units"
-            + " together, that one becomes part of it, and s units are cut from it");
+        Check.sentence("Promise 5",
+            "When a free chunk touches its end now, and both have s or more units together, "
+            + "that one becomes part of it, and s units are cut from it");
         called(64, "U4 B6 U6", 1, 7, 1, "U8 B2 U6");
         called(64, "U4 B6 U6", 1, 8, 1, "U10 U6");
         called(64, "U4 B6 U6", 1, 9, 1, "U10 U6");
@@ -159,7 +163,7 @@ public final class ReallocEdgesTest {
     }
 
     private static void restIsWhatItWas() {
-        Check.sentence("the rest being what the free chunk was (the top, the victim)");
+        Check.sentence("Promise 5", "the rest being what the free chunk was (the top, the victim)");
         called(64, "U4 V20 U8", 1, 7, 1, "U8 V16 U8");
         called(64, "U4 V20 U8", 1, 8, 1, "U9 V15 U8");
         called(64, "U4 T12", 1, 7, 1, "U8 T8");
@@ -174,7 +178,7 @@ public final class ReallocEdgesTest {
     }
 
     private static void restIntoStore() {
-        Check.sentence("or going into a store.");
+        Check.sentence("Promise 5", "or going into a store.");
         called(64, "U4 R20 U8", 1, 7, 1, "U8 R16 U8");
         called(64, "U4 R20 U8", 1, 8, 1, "U9 B15 U8");
         called(64, "U4 B15 U13", 1, 4, 1, "U5 B14 U13");
@@ -186,7 +190,7 @@ public final class ReallocEdgesTest {
     }
 
     private static void taken() {
-        Check.sentence("Otherwise s units are taken");
+        Check.sentence("Promise 5", "Otherwise s units are taken");
         called(64, "U4 U2 B9 U17", 1, 7, 7, "B4 U2 U9 U17");
         called(64, "U4 U2 B10 U16", 1, 7, 7, "B4 U2 U8 V2 U16");
         called(64, "U4 U2 V9 U17", 1, 4, 7, "B4 U2 U5 V4 U17");
@@ -196,7 +200,7 @@ public final class ReallocEdgesTest {
     }
 
     private static void copied() {
-        Check.sentence("the data of the old chunk are copied");
+        Check.sentence("Promise 5", "the data of the old chunk are copied");
         VictimHeap heap = Heaps.written(16, "U4 U2 B8 U2");
         Check.same("realloc(1, 7)", heap.realloc(1, 7), 7);
         Check.same("all numbers", Heaps.numbers(heap),
@@ -212,7 +216,7 @@ public final class ReallocEdgesTest {
     }
 
     private static void oldOneIsFreed() {
-        Check.sentence("and it is freed.");
+        Check.sentence("Promise 5", "and it is freed.");
         called(64, "B5 U4 U2 B9 U12", 6, 7, 12, "B9 U2 U9 U12");
         called(64, "U3 V5 U4 U2 B9 U9", 9, 7, 15, "U3 V9 U2 U9 U9");
         called(47, "R20 U2 U4 T6", 23, 16, 1, "U17 B3 U2 T10");
@@ -223,7 +227,7 @@ public final class ReallocEdgesTest {
     }
 
     private static void fails() {
-        Check.sentence("0 when it fails (then nothing is changed)");
+        Check.sentence("Promise 5", "0 when it fails (then nothing is changed)");
         VictimHeap behindTop = Refusal.mixed();
         Check.same("realloc(73, 55)", behindTop.realloc(73, 55), 73);
         Check.same("END", behindTop.end(), 128);
@@ -242,7 +246,7 @@ public final class ReallocEdgesTest {
     }
 
     private static void above511() {
-        Check.sentence("n is above 511 (realloc)");
+        Check.sentence("Promise 5", "n is above 511");
         VictimHeap all = new VictimHeap(512);
         all.malloc(3);
         Check.same("realloc(1, 511)", all.realloc(1, 511), 1);
@@ -257,7 +261,7 @@ public final class ReallocEdgesTest {
     }
 
     private static void noPointer() {
-        Check.sentence("or p is no pointer of a used chunk. (realloc)");
+        Check.sentence("Promise 5", "or p is no pointer of a used chunk.");
         List<Integer> pointers = List.of(5, 11, 30, 49, 51, 71, 73);
         for (int p = -3; p <= 132; p++) {
             if (pointers.contains(p)) {

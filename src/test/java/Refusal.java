@@ -24,15 +24,23 @@ final class Refusal {
     /** The call must give the answer that is due and leave the heap as it was. */
     static void same(String what, Supplier<VictimHeap> maker, Function<VictimHeap, Object> call,
             Object due) {
-        VictimHeap touched = maker.get();
-        VictimHeap other = maker.get();
-        Check.same(what, String.valueOf(call.apply(touched)), String.valueOf(due));
-        Check.same(what + ", what follows", story(touched), story(other));
+        // Two pairs, as the calls that tell what is taken next would hide a number that was lost.
+        for (int pair = 0; pair < 2; pair++) {
+            VictimHeap touched = maker.get();
+            VictimHeap other = maker.get();
+            Check.same(what, String.valueOf(call.apply(touched)), String.valueOf(due));
+            Check.same(what + ", how all lies", look(touched), look(other));
+            if (pair == 0) {
+                Check.same(what + ", numbers", Heaps.numbers(touched), Heaps.numbers(other));
+            } else {
+                Check.same(what + ", taken next", takenNext(touched), takenNext(other));
+            }
+        }
     }
 
-    private static String story(VictimHeap heap) {
+    private static String look(VictimHeap heap) {
         StringBuilder text = new StringBuilder(Heaps.layout(heap));
-        text.append("; ").append(heap.end()).append("; counts");
+        text.append("; counts");
         for (int k = 0; k <= 16; k++) {
             text.append(' ').append(heap.count(k));
         }
@@ -40,11 +48,15 @@ final class Refusal {
         for (int which = 0; which <= 4; which++) {
             text.append(' ').append(heap.total(which));
         }
-        text.append("; mallocs");
+        return text.toString();
+    }
+
+    private static String takenNext(VictimHeap heap) {
+        StringBuilder text = new StringBuilder();
         for (int n : NEXT) {
-            text.append(' ').append(heap.malloc(n));
+            text.append(heap.malloc(n)).append(' ');
         }
-        text.append("; ").append(Heaps.layout(heap));
-        return text.append("; numbers ").append(Heaps.numbers(heap)).toString();
+        return text.append("; ").append(Heaps.layout(heap)).append("; ")
+            .append(Heaps.numbers(heap)).toString();
     }
 }

@@ -1,27 +1,27 @@
 /** The nine steps of TAKE: each sentence that names a boundary, on both sides of it. */
 public final class TakeEdgesTest {
     public static void main(String[] args) {
-        belowSixteen();
-        stepOne();
-        stepTwo();
-        stepThree();
-        stepFour();
-        stepFive();
-        restIsVictim();
-        ifThereIsARest();
-        oldVictimIsStored();
-        fromSixteenOn();
-        smallestOfTree();
-        stepSix();
-        restOfStepSix();
-        stepSeven();
-        stepEight();
-        restOfOneOfTop();
-        stepNine();
-        withoutTop();
-        notAboveLimit();
-        fails();
-        Check.finish();
+        Check.each(
+            TakeEdgesTest::belowSixteen,
+            TakeEdgesTest::stepOne,
+            TakeEdgesTest::stepTwo,
+            TakeEdgesTest::stepThree,
+            TakeEdgesTest::stepFour,
+            TakeEdgesTest::stepFive,
+            TakeEdgesTest::restIsVictim,
+            TakeEdgesTest::ifThereIsARest,
+            TakeEdgesTest::oldVictimIsStored,
+            TakeEdgesTest::fromSixteenOn,
+            TakeEdgesTest::smallestOfTree,
+            TakeEdgesTest::stepSix,
+            TakeEdgesTest::restOfStepSix,
+            TakeEdgesTest::stepSeven,
+            TakeEdgesTest::stepEight,
+            TakeEdgesTest::restOfOneOfTop,
+            TakeEdgesTest::stepNine,
+            TakeEdgesTest::withoutTop,
+            TakeEdgesTest::notAboveLimit,
+            TakeEdgesTest::fails);
     }
 
     /** A malloc where END and the limit are 512, the layouts told without the top. */
@@ -41,7 +41,7 @@ public final class TakeEdgesTest {
     }
 
     private static void belowSixteen() {
-        Check.sentence("for s below 16");
+        Check.sentence("Terms, TAKE", "for s below 16");
         taken("R20 U2", 13, 1, "U14 V6 U2");
         taken("R20 U2", 14, 1, "U15 V5 U2");
         taken("R20 U2", 15, 1, "U16 B4 U2");
@@ -50,11 +50,12 @@ public final class TakeEdgesTest {
     }
 
     private static void stepOne() {
-        Check.sentence("1. the youngest chunk of bin s is used.");
+        Check.sentence("Terms, TAKE", "1. the youngest chunk of bin s is used.");
         taken("B4 U2 B5 U2 B6 U2", 4, 7, "B4 U2 U5 U2 B6 U2");
         taken("B6 U2 B5 U2 B4 U2", 4, 9, "B6 U2 U5 U2 B4 U2");
         taken("B4 U2", 4, 7, "B4 U2 U5");
         taken("B2 U2 B3 U2", 1, 1, "U2 U2 B3 U2");
+        taken("U2 V9 U2 B2 U2", 1, 14, "U2 V9 U2 U2 U2");
         taken("B15 U2 R16 U2", 14, 1, "U15 U2 R16 U2");
         taken("U2 V20 U2 B15 U2", 14, 25, "U2 V20 U2 U15 U2");
         taken("B5 U2 B5 U2", 4, 8, "B5 U2 U5 U2");
@@ -65,7 +66,7 @@ public final class TakeEdgesTest {
     }
 
     private static void stepTwo() {
-        Check.sentence("2. The youngest of bin s + 1 is used (for s below 15).");
+        Check.sentence("Terms, TAKE", "2. The youngest of bin s + 1 is used (for s below 15).");
         taken("U2 V9 U2 B6 U2 B7 U2", 4, 14, "U2 V9 U2 U6 U2 B7 U2");
         taken("U2 V9 U2 B7 U2", 4, 3, "U2 U5 V4 U2 B7 U2");
         taken("B3 U2", 1, 1, "U3 U2");
@@ -80,8 +81,8 @@ public final class TakeEdgesTest {
     }
 
     private static void stepThree() {
-        Check.sentence("3. s units are cut from the victim, if it has as many;"
-            + " the rest is the victim.");
+        Check.sentence("Terms, TAKE",
+            "3. s units are cut from the victim, if it has as many; the rest is the victim.");
         taken("U2 V9 U2 B12 U2", 6, 3, "U2 U7 V2 U2 B12 U2");
         taken("U2 V9 U2 B12 U2", 7, 3, "U2 U9 U2 B12 U2");
         taken("U2 V9 U2 B12 U2", 8, 3, "U2 U9 U2 B12 U2");
@@ -95,8 +96,8 @@ public final class TakeEdgesTest {
     }
 
     private static void stepFour() {
-        Check.sentence("4. They are cut from the youngest chunk of the least bin above"
-            + " that has any");
+        Check.sentence("Terms, TAKE",
+            "4. They are cut from the youngest chunk of the least bin above that has any");
         taken("B12 U2 B7 U2 R20 U2", 4, 15, "B12 U2 U5 V2 U2 R20 U2");
         taken("B4 U2 B9 U2", 4, 7, "B4 U2 U5 V4 U2");
         taken("B4 U2", 1, 1, "U2 V2 U2");
@@ -110,7 +111,7 @@ public final class TakeEdgesTest {
     }
 
     private static void stepFive() {
-        Check.sentence("5. or from the youngest of the smallest chunks in the tree");
+        Check.sentence("Terms, TAKE", "5. or from the youngest of the smallest chunks in the tree");
         taken("R18 U2 R17 U2 R19 U2", 4, 21, "R18 U2 U5 V12 U2 R19 U2");
         taken("R17 U2 R16 U2", 1, 20, "R17 U2 U2 V14 U2");
         taken("B4 U2 R16 U2", 4, 7, "B4 U2 U5 V11 U2");
@@ -123,7 +124,7 @@ public final class TakeEdgesTest {
     }
 
     private static void restIsVictim() {
-        Check.sentence("in both cases the rest, if there is one, is the victim");
+        Check.sentence("Terms, TAKE", "in both cases the rest, if there is one, is the victim");
         taken("B12 U2", 3, 1, "U4 V8 U2");
         taken("B6 U2", 3, 1, "U4 V2 U2");
         taken("R20 U2", 4, 1, "U5 V15 U2");
@@ -136,7 +137,7 @@ public final class TakeEdgesTest {
     }
 
     private static void ifThereIsARest() {
-        Check.sentence("if there is one (a rest; of 16 units and more cut for less than 16)");
+        Check.sentence("Terms, TAKE, no rest", "the rest, if there is one, is the victim");
         VictimHeap none = taken("R16 U2", 14, 1, "U16 U2");
         Check.same("no rest, no victim", none.total(VictimHeap.VICTIM), 0);
         Check.same("no rest, usable", none.usable(1), 15);
@@ -149,7 +150,7 @@ public final class TakeEdgesTest {
     }
 
     private static void oldVictimIsStored() {
-        Check.sentence("and the victim that there was goes into a store.");
+        Check.sentence("Terms, TAKE", "and the victim that there was goes into a store.");
         taken("U2 V3 U2 B9 U2", 4, 8, "U2 B3 U2 U5 V4 U2");
         taken("U2 V4 U2 B7 U2", 4, 9, "U2 B4 U2 U5 V2 U2");
         taken("U2 V3 U2 R20 U2", 4, 8, "U2 B3 U2 U5 V15 U2");
@@ -162,7 +163,7 @@ public final class TakeEdgesTest {
     }
 
     private static void fromSixteenOn() {
-        Check.sentence("For s from 16 on");
+        Check.sentence("Terms, TAKE", "For s from 16 on");
         taken("U2 V20 U2 R18 U2", 14, 3, "U2 U15 V5 U2 R18 U2");
         taken("U2 V20 U2 R18 U2", 15, 25, "U2 V20 U2 U16 B2 U2");
         taken("U2 V9 U2 R40 U2", 14, 14, "U2 B9 U2 U15 V25 U2");
@@ -171,8 +172,9 @@ public final class TakeEdgesTest {
     }
 
     private static void smallestOfTree() {
-        Check.sentence("of the chunks in the tree of size s or more the smallest ones are looked at,"
-            + " and the youngest of these.");
+        Check.sentence("Terms, TAKE",
+            "of the chunks in the tree of size s or more the smallest ones are looked at, and "
+            + "the youngest of these.");
         String tree = "R21 U2 R19 U2 R20 U2";
         taken(tree, 17, 24, "R21 U2 U19 U2 R20 U2");
         taken(tree, 18, 24, "R21 U2 U19 U2 R20 U2");
@@ -188,8 +190,9 @@ public final class TakeEdgesTest {
     }
 
     private static void stepSix() {
-        Check.sentence("6. If there is one, and there is no victim of size s or more,"
-            + " or it is smaller than the victim, s units are cut from it");
+        Check.sentence("Terms, TAKE",
+            "6. If there is one, and there is no victim of size s or more, or it is smaller "
+            + "than the victim, s units are cut from it");
         taken("R25 U2", 19, 1, "U20 B5 U2");
         taken("U2 V19 U2 R25 U2", 19, 24, "U2 V19 U2 U20 B5 U2");
         taken("U2 V20 U2 R25 U2", 19, 3, "U2 U20 U2 R25 U2");
@@ -201,7 +204,7 @@ public final class TakeEdgesTest {
     }
 
     private static void restOfStepSix() {
-        Check.sentence("the rest goes into a store. (step 6)");
+        Check.sentence("Terms, TAKE, step 6", "the rest goes into a store.");
         taken("R22 U2", 19, 1, "U20 B2 U2");
         taken("R35 U2", 19, 1, "U20 B15 U2");
         taken("R36 U2", 19, 1, "U20 R16 U2");
@@ -213,8 +216,8 @@ public final class TakeEdgesTest {
     }
 
     private static void stepSeven() {
-        Check.sentence("7. They are cut from the victim, if it has as many;"
-            + " the rest is the victim.");
+        Check.sentence("Terms, TAKE",
+            "7. They are cut from the victim, if it has as many; the rest is the victim.");
         taken("U2 V20 U2", 15, 3, "U2 U16 V4 U2");
         taken("U2 V20 U2", 17, 3, "U2 U18 V2 U2");
         taken("U2 V20 U2", 18, 3, "U2 U20 U2");
@@ -226,8 +229,9 @@ public final class TakeEdgesTest {
     }
 
     private static void stepEight() {
-        Check.sentence("8. They are cut from the top, if it has as many units;"
-            + " the rest, 2 or more, is the top.");
+        Check.sentence("Terms, TAKE",
+            "8. They are cut from the top, if it has as many units; the rest, 2 or more, is "
+            + "the top.");
         takenBelow(64, "U4 T12", 9, 5, "U4 U10 T2");
         takenBelow(64, "U4 T12", 11, 5, "U4 U12");
         takenBelow(64, "U4 T12", 12, 5, "U4 U13 T15");
@@ -242,7 +246,7 @@ public final class TakeEdgesTest {
     }
 
     private static void restOfOneOfTop() {
-        Check.sentence("(A rest of one unit is used, too: then there is no top.)");
+        Check.sentence("Terms, TAKE", "(A rest of one unit is used, too: then there is no top.)");
         VictimHeap eight = takenBelow(64, "U4 T12", 10, 5, "U4 U12");
         Check.same("step 8, usable", eight.usable(5), 11);
         Check.same("step 8, total(TOP)", eight.total(VictimHeap.TOP), 0);
@@ -256,7 +260,8 @@ public final class TakeEdgesTest {
     }
 
     private static void stepNine() {
-        Check.sentence("9. END grows by the least multiple of 16 with which the top has as many");
+        Check.sentence("Terms, TAKE",
+            "9. END grows by the least multiple of 16 with which the top has as many");
         takenBelow(64, "U4 T12", 11, 5, "U4 U12");
         takenBelow(64, "U4 T12", 12, 5, "U4 U13 T15");
         takenBelow(64, "U4 T12", 27, 5, "U4 U28");
@@ -269,7 +274,7 @@ public final class TakeEdgesTest {
     }
 
     private static void withoutTop() {
-        Check.sentence("(without a top: the new units are the top)");
+        Check.sentence("Terms, TAKE", "(without a top: the new units are the top)");
         takenBelow(64, "U16", 1, 17, "U16 U2 T14");
         takenBelow(64, "U16", 13, 17, "U16 U14 T2");
         takenBelow(64, "U16", 15, 17, "U16 U16");
@@ -284,7 +289,7 @@ public final class TakeEdgesTest {
     }
 
     private static void notAboveLimit() {
-        Check.sentence("if it is not above the limit then");
+        Check.sentence("Terms, TAKE", "if it is not above the limit then");
         takenBelow(48, "U4 T12", 43, 5, "U4 U44");
         takenBelow(48, "U4 T12", 44, 0, "U4 T12");
         takenBelow(47, "U4 T12", 27, 5, "U4 U28");
@@ -297,7 +302,7 @@ public final class TakeEdgesTest {
     }
 
     private static void fails() {
-        Check.sentence("Otherwise it fails.");
+        Check.sentence("Terms, TAKE", "Otherwise it fails.");
         VictimHeap last = Refusal.mixed();
         Check.same("the most that there is", last.malloc(50), 78);
         Check.same("END then", last.end(), 128);

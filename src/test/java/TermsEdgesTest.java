@@ -7,31 +7,32 @@ public final class TermsEdgesTest {
     private static final int MAX = Integer.MAX_VALUE;
 
     public static void main(String[] args) {
-        callsOfOneObject();
-        unitsNeverWritten();
-        endAndLimit();
-        leastSize();
-        ownUnitAndPointer();
-        freeChunksNeverTouch();
-        freeAtEnd();
-        binsAndTree();
-        youngerInBin();
-        youngerInTree();
-        restOfCut();
-        touchingChunksBecomeOne();
-        endsAtEnd();
-        victimIsPart();
-        goesIntoStore();
-        partsAreGone();
-        numbersAreKept();
-        newUnitsAreZero();
-        lostUnits();
-        refusedCalls();
-        Check.finish();
+        Check.each(
+            TermsEdgesTest::callsOfOneObject,
+            TermsEdgesTest::unitsNeverWritten,
+            TermsEdgesTest::endAndLimit,
+            TermsEdgesTest::leastSize,
+            TermsEdgesTest::ownUnitAndPointer,
+            TermsEdgesTest::freeChunksNeverTouch,
+            TermsEdgesTest::freeAtEnd,
+            TermsEdgesTest::binsAndTree,
+            TermsEdgesTest::youngerInBin,
+            TermsEdgesTest::youngerInTree,
+            TermsEdgesTest::restOfCut,
+            TermsEdgesTest::touchingChunksBecomeOne,
+            TermsEdgesTest::endsAtEnd,
+            TermsEdgesTest::victimIsPart,
+            TermsEdgesTest::goesIntoStore,
+            TermsEdgesTest::partsAreGone,
+            TermsEdgesTest::numbersAreKept,
+            TermsEdgesTest::newUnitsAreZero,
+            TermsEdgesTest::lostUnits,
+            TermsEdgesTest::refusedCalls);
     }
 
     private static void callsOfOneObject() {
-        Check.sentence("An object is used for at most 512 calls after it has been made");
+        Check.sentence("What it is",
+            "An object is used for at most 512 calls after it has been made");
         VictimHeap taken = new VictimHeap(64);
         for (int call = 1; call <= 512; call += 2) {
             Check.same("call " + call, taken.malloc(20), 1);
@@ -46,7 +47,7 @@ public final class TermsEdgesTest {
     }
 
     private static void unitsNeverWritten() {
-        Check.sentence("each a number (an int, 0 where nothing was ever written)");
+        Check.sentence("Terms", "each a number (an int, 0 where nothing was ever written)");
         VictimHeap heap = new VictimHeap(16);
         heap.malloc(15);
         Check.same("never written", Heaps.data(heap, 1), "0 0 0 0 0 0 0 0 0 0 0 0 0 0 0");
@@ -57,7 +58,7 @@ public final class TermsEdgesTest {
     }
 
     private static void endAndLimit() {
-        Check.sentence("END is 0 at first, and at most the LIMIT.");
+        Check.sentence("Terms", "END is 0 at first, and at most the LIMIT.");
         int[][] limitsAndEnds = {{16, 16}, {31, 16}, {32, 32}, {47, 32}, {48, 48}, {200, 192}};
         for (int[] pair : limitsAndEnds) {
             for (int way = 0; way < 4; way++) {
@@ -86,7 +87,7 @@ public final class TermsEdgesTest {
     }
 
     private static void leastSize() {
-        Check.sentence("side by side without gaps, each of at least 2 units, its SIZE.");
+        Check.sentence("Terms", "side by side without gaps, each of at least 2 units, its SIZE.");
         VictimHeap least = new VictimHeap(16);
         least.malloc(1);
         least.malloc(1);
@@ -102,7 +103,8 @@ public final class TermsEdgesTest {
     }
 
     private static void ownUnitAndPointer() {
-        Check.sentence("The first unit of a used chunk is its own; the others are its DATA");
+        Check.sentence("Terms",
+            "The first unit of a used chunk is its own; the others are its DATA");
         VictimHeap heap = Heaps.of(16, "U4 U4 T8");
         Check.same("the first chunk is told by", heap.usable(1), 3);
         Check.same("the second chunk is told by", heap.usable(5), 3);
@@ -116,7 +118,7 @@ public final class TermsEdgesTest {
     }
 
     private static void freeChunksNeverTouch() {
-        Check.sentence("Free chunks never touch.");
+        Check.sentence("Terms", "Free chunks never touch.");
         VictimHeap heap = Heaps.of(16, "U4 U2 U4 U2 U4");
         heap.free(1);
         heap.free(7);
@@ -130,7 +132,7 @@ public final class TermsEdgesTest {
     }
 
     private static void freeAtEnd() {
-        Check.sentence("A free chunk that ends at END is the TOP");
+        Check.sentence("Terms", "A free chunk that ends at END is the TOP");
         VictimHeap last = Heaps.of(16, "U6 U8 U2");
         last.free(15);
         Check.layout("the last one", last, "U6 U8 T2");
@@ -142,8 +144,9 @@ public final class TermsEdgesTest {
     }
 
     private static void binsAndTree() {
-        Check.sentence("those of size 2 .. 15 in the BIN of their size,"
-            + " those of 16 and more in the TREE.");
+        Check.sentence("Terms",
+            "those of size 2 .. 15 in the BIN of their size, those of 16 and more in the "
+            + "TREE.");
         for (int size = 2; size <= 40; size++) {
             VictimHeap heap = Heaps.sideBySide(size, 2);
             heap.free(1);
@@ -158,14 +161,14 @@ public final class TermsEdgesTest {
     }
 
     private static void youngerInBin() {
-        Check.sentence("the one that came into it later is the YOUNGER one. (a bin)");
+        Check.sentence("Terms, a bin", "the one that came into it later is the YOUNGER one.");
         younger(5);
         younger(2);
         younger(15);
     }
 
     private static void youngerInTree() {
-        Check.sentence("the one that came into it later is the YOUNGER one. (the tree)");
+        Check.sentence("Terms, the tree", "the one that came into it later is the YOUNGER one.");
         younger(16);
         younger(30);
     }
@@ -195,8 +198,9 @@ public final class TermsEdgesTest {
     }
 
     private static void restOfCut() {
-        Check.sentence("when the rest would be less than 2 units,"
-            + " all of it is used and there is no rest.");
+        Check.sentence("Terms, CUT",
+            "when the rest would be less than 2 units, all of it is used and there is no "
+            + "rest.");
         cut("the victim, small", "U2 V10 U2 T2", 3, 10, "U2 U8 V2 U2 T2", "U2 U10 U2 T2");
         cut("the victim, large", "U2 V20 U2 T8", 3, 20, "U2 U18 V2 U2 T8", "U2 U20 U2 T8");
         cut("the tree, large", "R20 U2 T10", 1, 20, "U18 B2 U2 T10", "U20 U2 T10");
@@ -232,7 +236,8 @@ public final class TermsEdgesTest {
     }
 
     private static void touchingChunksBecomeOne() {
-        Check.sentence("it and the free chunks that touch it become one free chunk.");
+        Check.sentence("Terms, FREE",
+            "it and the free chunks that touch it become one free chunk.");
         freed("U2 U4 U10", 3, "U2 B4 U10");
         freed("B2 U4 U10", 3, "B6 U10");
         freed("U2 U4 B3 U7", 3, "U2 B7 U7");
@@ -244,9 +249,10 @@ public final class TermsEdgesTest {
     }
 
     private static void endsAtEnd() {
-        Check.sentence("If that ends at END, it is the top");
+        Check.sentence("Terms, FREE", "If that ends at END, it is the top");
         freed("U6 U10", 7, "U6 T10");
         freed("U6 U10", 1, "B6 U10");
+        freed("U6 U8 U2", 7, "U6 B8 U2");
         freed("U6 U4 T6", 7, "U6 T10");
         freed("U6 U2 U2 T6", 7, "U6 B2 U2 T6");
         freed("U2 B4 U10", 7, "U2 T14");
@@ -261,7 +267,7 @@ public final class TermsEdgesTest {
     }
 
     private static void victimIsPart() {
-        Check.sentence("otherwise, if the victim is part of it, the victim");
+        Check.sentence("Terms, FREE", "otherwise, if the victim is part of it, the victim");
         freed("U2 V6 U4 U4", 9, "U2 V10 U4");
         freed("U2 V6 U8", 1, "V8 U8");
         freed("U2 U4 V6 U4", 3, "U2 V10 U4");
@@ -276,7 +282,7 @@ public final class TermsEdgesTest {
     }
 
     private static void goesIntoStore() {
-        Check.sentence("otherwise it goes into a store.");
+        Check.sentence("Terms, FREE", "otherwise it goes into a store.");
         freed("U2 U14 U16", 3, "U2 B14 U16");
         freed("U2 U15 U15", 3, "U2 B15 U15");
         freed("U2 U16 U14", 3, "U2 R16 U14");
@@ -301,8 +307,9 @@ public final class TermsEdgesTest {
     }
 
     private static void partsAreGone() {
-        Check.sentence("(Whatever becomes part of it does not lie in a store any more,"
-            + " and is not the victim or top any more.)");
+        Check.sentence("Terms, FREE",
+            "(Whatever becomes part of it does not lie in a store any more, and is not the "
+            + "victim or top any more.)");
         VictimHeap bins = freed("B2 U4 B3 U7", 3, "B9 U7");
         Check.same("bin 2", bins.count(2), 0);
         Check.same("bin 3", bins.count(3), 0);
@@ -323,7 +330,7 @@ public final class TermsEdgesTest {
     }
 
     private static void numbersAreKept() {
-        Check.sentence("Units keep their numbers in all of this, if nothing else is said");
+        Check.sentence("Terms", "Units keep their numbers in all of this, if nothing else is said");
         VictimHeap heap = Heaps.written(16, "U2 B5 U2 V5 U2");
         heap.malloc(1);
         heap.malloc(2);
@@ -336,7 +343,7 @@ public final class TermsEdgesTest {
     }
 
     private static void newUnitsAreZero() {
-        Check.sentence("when END grows, the new ones are 0");
+        Check.sentence("Terms", "when END grows, the new ones are 0");
         VictimHeap taken = trimmed();
         taken.malloc(20);
         Check.same("END, by malloc", taken.end(), 32);
@@ -360,7 +367,7 @@ public final class TermsEdgesTest {
     }
 
     private static void lostUnits() {
-        Check.sentence("when it shrinks, those that are gone are lost.");
+        Check.sentence("Terms", "when it shrinks, those that are gone are lost.");
         VictimHeap heap = trimmed();
         Check.same("END", heap.end(), 16);
         Check.same("total(TOP)", heap.total(VictimHeap.TOP), 12);
@@ -375,7 +382,7 @@ public final class TermsEdgesTest {
     }
 
     private static void refusedCalls() {
-        Check.sentence("A call that is refused changes nothing.");
+        Check.sentence("Terms", "A call that is refused changes nothing.");
         Refusal.same("free", Refusal::mixed, heap -> heap.free(6), false);
         Refusal.same("write", Refusal::mixed, heap -> heap.write(5, 1, 9), false);
         Refusal.same("malloc", Refusal::mixed, heap -> heap.malloc(51), 0);

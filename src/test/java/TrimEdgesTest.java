@@ -4,13 +4,13 @@ public final class TrimEdgesTest {
     private static final int MAX = Integer.MAX_VALUE;
 
     public static void main(String[] args) {
-        keeps();
-        belowZero();
-        notJustOne();
-        noneLeft();
-        answersByHowMuch();
-        noTop();
-        Check.finish();
+        Check.each(
+            TrimEdgesTest::keeps,
+            TrimEdgesTest::belowZero,
+            TrimEdgesTest::notJustOne,
+            TrimEdgesTest::noneLeft,
+            TrimEdgesTest::answersByHowMuch,
+            TrimEdgesTest::noTop);
     }
 
     private static VictimHeap called(String before, int keep, int answer, String after) {
@@ -21,8 +21,9 @@ public final class TrimEdgesTest {
     }
 
     private static void keeps() {
-        Check.sentence("END becomes less by the greatest multiple of 16 that leaves of the top keep"
-            + " units or more");
+        Check.sentence("Promise 7",
+            "END becomes less by the greatest multiple of 16 that leaves of the top keep "
+            + "units or more");
         called("U4 T44", MAX, 0, "U4 T44");
         called("U4 T44", 61, 0, "U4 T44");
         called("U4 T44", 60, 0, "U4 T44");
@@ -41,7 +42,7 @@ public final class TrimEdgesTest {
     }
 
     private static void belowZero() {
-        Check.sentence("(keep below 0 counts as 0)");
+        Check.sentence("Promise 7", "(keep below 0 counts as 0)");
         for (int keep : new int[] {0, -1, -2, -15, -16, -17, MIN + 1, MIN}) {
             called("U16 T32", keep, 32, "U16");
             called("U4 T44", keep, 32, "U4 T12");
@@ -54,7 +55,7 @@ public final class TrimEdgesTest {
     }
 
     private static void notJustOne() {
-        Check.sentence("but not just 1");
+        Check.sentence("Promise 7", "but not just 1");
         called("U15 T17", 0, 0, "U15 T17");
         called("U15 T17", 1, 0, "U15 T17");
         called("U15 T17", 2, 0, "U15 T17");
@@ -68,12 +69,13 @@ public final class TrimEdgesTest {
         called("U14 T18", 2, 16, "U14 T2");
         called("U14 T18", 3, 0, "U14 T18");
         called("U14 T2", 0, 0, "U14 T2");
+        called("U16 T16", 0, 16, "U16");
         Refusal.same("trim(0) that would leave 1", () -> Heaps.written(64, "U15 T17"),
             heap -> heap.trim(0), 0);
     }
 
     private static void noneLeft() {
-        Check.sentence("(with 0 left there is no top then)");
+        Check.sentence("Promise 7", "(with 0 left there is no top then)");
         VictimHeap heap = called("U16 T16", 0, 16, "U16");
         Check.same("total(TOP)", heap.total(VictimHeap.TOP), 0);
         Check.same("state at END", heap.state(16), -1);
@@ -94,7 +96,7 @@ public final class TrimEdgesTest {
     }
 
     private static void answersByHowMuch() {
-        Check.sentence("Answers by how much");
+        Check.sentence("Promise 7", "Answers by how much");
         for (int keep = 0; keep <= 64; keep++) {
             VictimHeap heap = Heaps.of(64, "T64");
             int less = (64 - keep) / 16 * 16;
@@ -104,7 +106,7 @@ public final class TrimEdgesTest {
     }
 
     private static void noTop() {
-        Check.sentence("0 also when there is no top.");
+        Check.sentence("Promise 7", "0 also when there is no top.");
         for (int keep : new int[] {MIN, -16, -1, 0, 1, 16, MAX}) {
             String what = "trim(" + keep + "), ";
             Refusal.same(what + "new", () -> new VictimHeap(64), heap -> heap.trim(keep), 0);
